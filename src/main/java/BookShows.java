@@ -270,11 +270,11 @@ public final class BookShows {
         if (!book.hasVersion(version)) {
             return UNKNOWN;
         }
-        int count = slips.list(version);
+        outcomes.learnAll(version);
+        int count = slips.learn(version);
         if (slip < 0 || slip >= count) {
             return OUTSIDE;
         }
-        learnSlips(version, count);
         return slips.noticers(version, slip);
     }
 
@@ -282,8 +282,8 @@ public final class BookShows {
         if (!book.hasVersion(version)) {
             return UNKNOWN;
         }
-        int count = slips.list(version);
-        learnSlips(version, count);
+        outcomes.learnAll(version);
+        int count = slips.learn(version);
         int found = 0;
         for (int slip = 0; slip < count; slip++) {
             if (slips.noticers(version, slip) == 0) {
@@ -300,8 +300,8 @@ public final class BookShows {
         if (!book.hasVersion(version)) {
             return UNKNOWN;
         }
-        int count = slips.list(version);
-        learnSlips(version, count);
+        outcomes.learnAll(version);
+        int count = slips.learn(version);
         needs.clear();
         for (int slip = 0; slip < count; slip++) {
             needs.add(slips.noticers(version, slip));
@@ -378,11 +378,6 @@ public final class BookShows {
             default:
                 return OUTSIDE;
         }
-    }
-
-    private void learnSlips(int version, int count) {
-        outcomes.learnAll(version);
-        slips.learn(version, count);
     }
 
     private static boolean isWord(int word) {
@@ -884,10 +879,14 @@ public final class BookShows {
         }
 
         private int give(int word, int number) {
-            boolean isGone = !BookShows.isWord(word) || words[word].count() == 0;
+            if (!BookShows.isWord(word)) {
+                return GONE;
+            }
+            boolean isGone = words[word].count() == 0;
             if (!isGone && (given >= MOST_GIVEN || open >= MOST_OPEN)) {
                 return ENDLESS;
             }
+            // the document counts GONE ones as USED, but not one that ENDLESS keeps from being given something
             used |= 1 << word;
             if (isGone) {
                 return GONE;
@@ -934,7 +933,7 @@ public final class BookShows {
         }
 
         void learn(int page, int version) {
-            if (!isShown(page, version)) {
+            if (!book.isExample(page) || !book.hasVersion(version)) {
                 return;
             }
             int cell = version * PAGES + page;
@@ -953,16 +952,17 @@ public final class BookShows {
         }
 
         int of(int page, int version) {
-            return isShown(page, version) ? came[version * PAGES + page] : NONE;
+            return book.isExample(page) && book.hasVersion(version) ? came[version * PAGES + page] : NONE;
         }
 
         /** WORDS that an EXAMPLE has USED, as bits. */
         int used(int page, int version) {
-            return isShown(page, version) ? uses[version * PAGES + page] : 0;
+            return book.isExample(page) && book.hasVersion(version) ? uses[version * PAGES + page] : 0;
         }
 
         boolean holds(int page, int version) {
-            return isShown(page, version) && came[version * PAGES + page] == book.due(page);
+            return book.isExample(page) && book.hasVersion(version)
+                && came[version * PAGES + page] == book.due(page);
         }
 
         /** EXAMPLES that HOLD in a VERSION, as bits. */
@@ -986,13 +986,9 @@ public final class BookShows {
             }
             return set;
         }
-
-        private boolean isShown(int page, int version) {
-            return book.isExample(page) && book.hasVersion(version);
-        }
     }
 
-    /** SLIPS of VERSIONS and who notices them, reckoned once and kept until something changes. */
+    /** SLIPS of VERSIONS and who notices them: learned ahead of being asked for, kept until something changes. */
     private static final class Slips {
         private final Book book;
         private final Outcomes outcomes;
@@ -1038,15 +1034,19 @@ public final class BookShows {
             return slip >= 0 && slip < MOST_SLIPS ? codes[slip] : NONE;
         }
 
-        /** Reckons who notices the listed SLIPS. */
-        void learn(int version, int count) {
-            if (!book.hasVersion(version) || known[version]) {
-                return;
+        /** Lists the SLIPS of a VERSION whose outcomes are known, and reckons who notices them: how many. */
+        int learn(int version) {
+            if (!book.hasVersion(version)) {
+                return 0;
             }
-            for (int slip = 0; slip < count && slip < MOST_SLIPS; slip++) {
-                noticers[version * MOST_SLIPS + slip] = reckonNoticers(version, codes[slip] / 100, codes[slip] % 100);
+            int count = list(version);
+            if (!known[version]) {
+                for (int slip = 0; slip < count; slip++) {
+                    noticers[version * MOST_SLIPS + slip] = reckonNoticers(version, codes[slip] / 100, codes[slip] % 100);
+                }
+                known[version] = true;
             }
-            known[version] = true;
+            return count;
         }
 
         /** EXAMPLES that notice a SLIP, as bits. */
