@@ -155,7 +155,7 @@ public final class BookShows {
             case 1:
                 return book.isExample(page) ? book.due(page) : NONE;
             case 2:
-                return book.example(page).named();
+                return book.named(page);
             case 3:
                 return book.example(page).count();
             default:
@@ -408,7 +408,7 @@ public final class BookShows {
         int early = 0;
         for (int page = 0; page < book.pages(); page++) {
             if (book.isExample(page)) {
-                early += Integer.bitCount(book.example(page).named() & ~told);
+                early += Integer.bitCount(book.named(page) & ~told);
             } else {
                 told |= 1 << book.toldWord(page);
             }
@@ -421,7 +421,7 @@ public final class BookShows {
         int told = book.toldWords();
         int early = 0;
         for (int page = 0; page < book.pages(); page++) {
-            early += Integer.bitCount(book.example(page).named() & ~told);
+            early += Integer.bitCount(book.named(page) & ~told);
         }
         return early;
     }
@@ -448,7 +448,7 @@ public final class BookShows {
     /** The first PAGE not placed yet that names none of the WORDS that are still to be told. */
     private int firstFree(int placed, int untold) {
         for (int page = 0; page < book.pages(); page++) {
-            if ((placed >> page & 1) == 0 && (book.example(page).named() & untold) == 0) {
+            if ((placed >> page & 1) == 0 && (book.named(page) & untold) == 0) {
                 return page;
             }
         }
@@ -652,6 +652,7 @@ public final class BookShows {
         private final Text[] texts;
         private final int[] telling;
         private final Text[] shown;
+        private final int[] names;
         private final int[] dues;
         private int versions;
         private int pages;
@@ -667,6 +668,7 @@ public final class BookShows {
             for (int page = 0; page < PAGES; page++) {
                 shown[page] = nothing;
             }
+            names = new int[PAGES];
             dues = new int[PAGES];
             versions = 1;
             pages = 0;
@@ -679,6 +681,7 @@ public final class BookShows {
             for (int page = 0; page < PAGES; page++) {
                 telling[page] = other.telling[page];
                 shown[page] = other.shown[page];
+                names[page] = other.names[page];
                 dues[page] = other.dues[page];
             }
             versions = other.versions;
@@ -765,6 +768,7 @@ public final class BookShows {
             }
             telling[pages] = word;
             shown[pages] = text;
+            names[pages] = text.named();
             dues[pages] = due;
             pages++;
             return pages - 1;
@@ -789,6 +793,11 @@ public final class BookShows {
         /** The text of an EXAMPLE; one without signs, if the PAGE TELLS. */
         Text example(int page) {
             return hasPage(page) ? shown[page] : nothing;
+        }
+
+        /** NAMED as bits; 0, if the PAGE TELLS. */
+        int named(int page) {
+            return hasPage(page) ? names[page] : 0;
         }
 
         int due(int page) {

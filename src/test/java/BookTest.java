@@ -14,6 +14,7 @@ public final class BookTest {
         stale();
         blame();
         blameOfSeveral();
+        blameOfAll();
         blameOfGoneWords();
         due.end();
     }
@@ -43,6 +44,9 @@ public final class BookTest {
         due.refused("10 with a FAULT", x, () -> x.shows(3), BookShows.NO);
         x.say('x');
         due.refused("10 with an x", x, () -> x.shows(3), BookShows.NO);
+        x.wipe();
+        x.say('x');
+        due.refused("10 with an x alone", x, () -> x.shows(3), BookShows.NO);
         for (int no : NO_NUMBER) {
             due.refused("10 shows(" + no + ")", x, () -> x.shows(no), BookShows.OUTSIDE);
         }
@@ -224,6 +228,26 @@ public final class BookTest {
         y.version();
         Due.word(y, 2, "2");
         due.is("14 back to the last one ahead", y.blame(0, 2), 0b100);
+    }
+
+    private static void blameOfAll() {
+        BookShows x = new BookShows();
+        for (int word = 0; word < 8; word++) {
+            Due.word(x, word, "+x1");
+        }
+        Due.shows(x, "+abcd0efgh0", 8);
+        x.version();
+        for (int word = 0; word < 8; word++) {
+            Due.word(x, word, "x");
+        }
+        due.is("14 all eight", x.blame(0, 1), 0b11111111);
+        x.version();
+        for (int word = 0; word < 8; word++) {
+            Due.word(x, word, "+x1");
+        }
+        due.is("14 it HOLDS again", x.blame(0, 2), BookShows.STATE);
+        x.mend(0, 1);
+        due.is("14 as in VERSION 0, but not as in the one ahead", x.blame(0, 2), 0b11111111);
     }
 
     private static void blameOfGoneWords() {

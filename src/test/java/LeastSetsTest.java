@@ -5,12 +5,14 @@ public final class LeastSetsTest {
 
     public static void main(String[] args) {
         order();
+        orderOfWordsToldTwice();
         orderOfTwelve();
         cover();
         apart();
         slip();
         slipsOfEachSign();
         noticed();
+        noticedOneByOne();
         unshown();
         notice();
         noticeAfterChanges();
@@ -39,7 +41,6 @@ public final class LeastSetsTest {
         due.is("15 EARLY of the best", x.order(-2), 1);
         orderIs("the first by numbers", x, 2, 3, 0, 1, 4, 5);
         BookShows y = new BookShows();
-        x.image(0);
         Due.shows(y, "1", 0);
         y.tells(3);
         Due.shows(y, "d1", 0);
@@ -53,6 +54,26 @@ public final class LeastSetsTest {
         due.is("15 none told", z.order(-1), 3);
         due.is("15 none told in the best", z.order(-2), 3);
         orderIs("nothing to gain", z, 0, 1, 2);
+    }
+
+    private static void orderOfWordsToldTwice() {
+        BookShows x = new BookShows();
+        x.tells(0);
+        x.tells(1);
+        x.tells(0);
+        Due.shows(x, "+a1b1", 0);
+        x.tells(2);
+        due.is("15 told twice", x.order(-1), 0);
+        due.is("15 told twice, best", x.order(-2), 0);
+        orderIs("told twice", x, 0, 1, 2, 3, 4);
+        BookShows y = new BookShows();
+        y.tells(0);
+        y.tells(0);
+        Due.shows(y, "ab1", 0);
+        Due.shows(y, "a1", 0);
+        y.tells(1);
+        due.is("15 one is early", y.order(-1), 1);
+        orderIs("told twice, then free", y, 0, 1, 3, 4, 2);
     }
 
     private static void orderOfTwelve() {
@@ -93,6 +114,12 @@ public final class LeastSetsTest {
         Due.word(x, 4, "");
         due.is("16 in VERSION 1", x.cover(1), 0b10011000);
         due.is("16 in VERSION 0", x.cover(0), 0b11000000);
+        for (int word = 0; word < 8; word++) {
+            BookShows y = new BookShows();
+            Due.shows(y, "1", 1);
+            Due.shows(y, (char) ('a' + word) + "1", 1);
+            due.is("16 WORD " + word + " alone", y.cover(0), 2);
+        }
     }
 
     private static void apart() {
@@ -122,6 +149,18 @@ public final class LeastSetsTest {
         due.is("17 0 and 2 against 1 and 3", x.held(6, 0, 1) * 8 + x.held(6, 1, 1) * 4 + x.held(6, 2, 1) * 2 + x.held(6, 3, 1), 0b1010);
         Due.shows(x, "?*a0-1a001", 0);
         due.is("17 two halves", x.apart(), 0b11000000);
+        BookShows y = new BookShows();
+        Due.shows(y, "a0", 0);
+        y.version();
+        y.version();
+        Due.word(y, 0, "0");
+        due.is("17 asked for the first time", y.apart(), 1);
+        BookShows z = new BookShows();
+        Due.word(z, 0, "0");
+        Due.shows(z, "a0", 0);
+        z.version();
+        Due.word(z, 0, "1");
+        due.is("17 and here", z.apart(), 1);
     }
 
     private static void slip() {
@@ -194,6 +233,19 @@ public final class LeastSetsTest {
         Due.word(x, 0, "m2x");
         due.is("19 in VERSION 1", x.noticed(1, 1), 0);
         due.is("19 still in VERSION 0", x.noticed(0, 1), 0b1000);
+    }
+
+    /** One SLIP at a time: the one ahead in another WORD is gone when the next one is tried. */
+    private static void noticedOneByOne() {
+        BookShows x = new BookShows();
+        Due.word(x, 0, "1");
+        Due.word(x, 1, "5");
+        Due.word(x, 2, "7");
+        Due.shows(x, "+a0*0+b0c0", 1);
+        due.is("19 in a", x.noticed(0, 0), 1);
+        due.is("19 in b", x.noticed(0, 1), 0);
+        due.is("19 in c", x.noticed(0, 2), 0);
+        due.is("20 two", x.unshown(0, -1), 2);
     }
 
     private static void unshown() {

@@ -160,6 +160,17 @@ public final class MendingTest {
         Due.shows(x, "a0", 2);
         due.is("25 another EXAMPLE", x.held(1, 1, 0), 1);
         due.is("25 notice behind it", x.notice(1), 1);
+        BookShows y = new BookShows();
+        y.image(0);
+        y.tells(3);
+        Due.shows(y, "a1", 4);
+        String before = Due.stateOf(y);
+        y.image(1);
+        y.restore(0);
+        Due.shows(y, "+12", 5);
+        y.tells(6);
+        y.restore(1);
+        due.is("25 PAGES that others stood in the place of", Due.stateOf(y).equals(before) ? 1 : 0, 1);
     }
 
     private static void told() {
@@ -175,6 +186,9 @@ public final class MendingTest {
         due.is("26 VERSIONS", x.told(1), 2);
         due.is("26 PAGES", x.told(2), 4);
         due.is("26 PAGES that SHOW", x.told(3), 0b1010);
+        BookShows y = new BookShows();
+        Due.shows(y, "1", 1);
+        due.is("26 PAGE 0 SHOWS", y.told(3), 1);
         for (int no : new int[] {4, -1, Integer.MIN_VALUE, Integer.MAX_VALUE}) {
             due.refused("26 told(" + no + ")", x, () -> x.told(no), BookShows.OUTSIDE);
         }

@@ -123,6 +123,9 @@ public final class WordsTest {
         }
         Due.say(x, "+1");
         due.refused("6 with a FAULT", x, () -> x.word(3), BookShows.NO);
+        x.wipe();
+        x.say('+');
+        due.refused("6 one sign with a FAULT", x, () -> x.word(3), BookShows.NO);
         due.refused("6 UNKNOWN ahead of NO", x, () -> x.word(8), BookShows.UNKNOWN);
         x.wipe();
         due.is("6 no signs", x.word(3), 0);
@@ -187,6 +190,8 @@ public final class WordsTest {
         due.is("8 a WORD", Due.comes(x, "ax", 0, 4), 7);
         due.is("8 a WORD of WORDS", Due.comes(x, "b1", 0, 4), 16);
         due.is("8 x is the text's own again", Due.comes(x, "+a1x", 0, 4), 8);
+        Due.word(x, 2, "aaaaaax");
+        due.is("8 a WORD whose text lies 6 deep", Due.comes(x, "aaaaac1", 0, 0), 34);
         due.is("8 a WORD given a WORD's", Due.comes(x, "aa-bx1", 0, 2), 30);
         x.version();
         Due.word(x, 0, "-x3");
